@@ -258,6 +258,14 @@ public final class MazeCalendar {
             return state;
         }
 
+        /** Whether it is open otherwise than in the STEP ahead. */
+        boolean isChanged(int step) {
+            if (step < 1 || step >= STEPS) {
+                return true;
+            }
+            return right[step] != right[step - 1] || down[step] != down[step - 1];
+        }
+
         int walk(int state, int hand, int steps) {
             int now = state;
             for (int step = 0; step < steps; step++) {
@@ -414,8 +422,63 @@ public final class MazeCalendar {
             last = Math.max(last, steps);
         }
 
-        boolean allows(int steps, int day) {
-            return !isStep(steps) || days[steps] == NONE || days[steps] == day;
+        /** The DAY on which it was SEEN then; NONE: it was not. */
+        int dayAt(int steps) {
+            return isStep(steps) ? days[steps] : NONE;
+        }
+    }
+
+    /** All starts that a lost one may have had, walked side by side by one HAND. */
+    private static final class Lost {
+        private final int[] starts = new int[MOST_STATES];
+        private final int[] states = new int[MOST_STATES];
+        // Where each state leads to as long as nothing changes in the maze; NONE: not asked yet.
+        private final int[] known = new int[MOST_STATES];
+        private int size;
+
+        void beginAnywhere(int days) {
+            size = Math.min(WAYS * days, MOST_STATES);
+            for (int k = 0; k < size; k++) {
+                starts[k] = k;
+            }
+            beginAgain();
+        }
+
+        void beginAgain() {
+            for (int k = 0; k < size; k++) {
+                states[k] = starts[k];
+            }
+        }
+
+        void keepThoseOn(int day) {
+            int kept = 0;
+            for (int k = 0; k < size; k++) {
+                if (states[k] / WAYS == day) {
+                    starts[kept] = starts[k];
+                    states[kept] = states[k];
+                    kept++;
+                }
+            }
+            size = kept;
+        }
+
+        void goOn(Maze maze, int hand, int step) {
+            if (step == 0 || maze.isChanged(step)) {
+                Arrays.fill(known, NONE);
+            }
+            for (int k = 0; k < size; k++) {
+                states[k] = nextOf(maze, states[k], hand, step);
+            }
+        }
+
+        private int nextOf(Maze maze, int state, int hand, int step) {
+            if (state < 0 || state >= MOST_STATES) {
+                return state;
+            }
+            if (known[state] == NONE) {
+                known[state] = maze.next(state, hand, step);
+            }
+            return known[state];
         }
     }
 
@@ -473,7 +536,7 @@ public final class MazeCalendar {
 
     // Rows for one call's work, made once so that calls make nothing.
     private final int[] guards;
-    private final int[] starts;
+    private final Lost lost;
     private final int[] crowd;
     private long[] chances;
     private long[] nextChances;
@@ -491,7 +554,7 @@ public final class MazeCalendar {
             sheets[s] = new Sheet();
         }
         guards = new int[MOST_GUARDS];
-        starts = new int[MOST_STATES];
+        lost = new Lost();
         crowd = new int[MOST_DAYS];
         chances = new long[MOST_DAYS];
         nextChances = new long[MOST_DAYS];
@@ -774,34 +837,16 @@ public final class MazeCalendar {
         if (!isHand(hand) || i < NONE || i >= MOST_STATES) {
             return BAD;
         }
-        int size = findStarts(hand);
-        if (i == NONE) {
-            return size;
-        }
-        return i < size ? starts[i] : NONE;
+        findStarts(hand);
+        return i == NONE ? lost.size : startAt(i);
     }
 
     public int look(int hand, int steps) {
         if (!isHand(hand) || !isStep(steps)) {
             return BAD;
         }
-        int size = findStarts(hand);
-        Arrays.fill(crowd, 0);
-        for (int k = 0; k < size; k++) {
-            int day = maze.walk(starts[k], hand, steps) / WAYS;
-            if (maze.hasDay(day)) {
-                crowd[day]++;
-            }
-        }
-        int best = NONE;
-        int most = 0;
-        for (int day = 0; day < MOST_DAYS; day++) {
-            if (crowd[day] > most) {
-                most = crowd[day];
-                best = day;
-            }
-        }
-        return best;
+        findStarts(hand);
+        return busiestDay(hand, steps);
     }
 
     public long stray(int step, int from, int steps, int to, int what) {
@@ -977,8 +1022,7 @@ public final class MazeCalendar {
         h = mix(mix(h, trod(20, 0)), trod(20, 1));
         h = mix(mix(h, guard(5, 0, 8, NONE)), guard(5, 0, 8, 0));
         for (int hand = 0; hand < HANDS; hand++) {
-            h = mix(mix(h, began(hand, NONE)), began(hand, 0));
-            h = mix(h, look(hand, 9));
+            h = mixHand(h, hand);
         }
         h = mix(mix(h, stray(5, 0, 5, 1, 0)), stray(5, 0, 5, 1, 1));
         return mix(mix(h, child(7, 0, 30, 0)), child(7, 0, 30, 1));
@@ -1106,28 +1150,44 @@ public final class MazeCalendar {
         return false;
     }
 
-    /** How many states fit all that was SEEN; the states themselves are in starts. */
-    private int findStarts(int hand) {
-        int size = 0;
-        int states = Math.min(WAYS * maze.days(), MOST_STATES);
-        for (int start = 0; start < states; start++) {
-            if (fitsSeen(start, hand)) {
-                starts[size] = start;
-                size++;
+    /** Leaves in lost those starts that fit all that was SEEN. */
+    private void findStarts(int hand) {
+        lost.beginAnywhere(maze.days());
+        for (int steps = 0; steps <= sightings.last; steps++) {
+            int day = sightings.dayAt(steps);
+            if (day != NONE) {
+                lost.keepThoseOn(day);
             }
+            lost.goOn(maze, hand, steps);
         }
-        return size;
     }
 
-    private boolean fitsSeen(int start, int hand) {
-        int state = start;
-        for (int steps = 0; steps <= sightings.last; steps++) {
-            if (!sightings.allows(steps, state / WAYS)) {
-                return false;
-            }
-            state = maze.next(state, hand, steps);
+    private int startAt(int i) {
+        return i >= 0 && i < lost.size ? lost.starts[i] : NONE;
+    }
+
+    /** The DAY on which most of those in lost are behind so many STEPS. */
+    private int busiestDay(int hand, int steps) {
+        lost.beginAgain();
+        for (int step = 0; step < steps; step++) {
+            lost.goOn(maze, hand, step);
         }
-        return true;
+        Arrays.fill(crowd, 0);
+        for (int k = 0; k < lost.size; k++) {
+            int day = lost.states[k] / WAYS;
+            if (maze.hasDay(day)) {
+                crowd[day]++;
+            }
+        }
+        int best = NONE;
+        int most = 0;
+        for (int day = 0; day < MOST_DAYS; day++) {
+            if (crowd[day] > most) {
+                most = crowd[day];
+                best = day;
+            }
+        }
+        return best;
     }
 
     /** One STEP by chance; the chances are then in twelfths of what they were in. */
@@ -1181,5 +1241,12 @@ public final class MazeCalendar {
         mixed = mix(mix(mixed, on(walker, 7, 0)), on(walker, 7, 1));
         mixed = mix(mix(mixed, on(walker, 99, 0)), comes(walker, 0));
         return mix(mixed, round(walker));
+    }
+
+    /** began(hand, NONE), began(hand, 0), look(hand, 9), with the dear search done once. */
+    private long mixHand(long h, int hand) {
+        findStarts(hand);
+        long mixed = mix(mix(h, lost.size), startAt(0));
+        return mix(mixed, busiestDay(hand, 9));
     }
 }
