@@ -106,7 +106,7 @@ public final class MazeCalendar {
         }
 
         boolean hasDay(int day) {
-            return day >= 0 && day < days();
+            return day >= 0 && day < rows * columns;
         }
 
         void take(Text text) {
@@ -258,7 +258,7 @@ public final class MazeCalendar {
             return state;
         }
 
-        /** Whether it is open otherwise than in the STEP ahead. */
+        /** Whether it is open otherwise than in the STEP ahead (the first has none ahead). */
         boolean isChanged(int step) {
             if (step < 1 || step >= STEPS) {
                 return true;
@@ -293,8 +293,11 @@ public final class MazeCalendar {
         /** All DAYS to which there is a way from some of a set through none that is barred. */
         long reach(long set, int step, long barred) {
             long reached = set & ~barred;
+            if (!isStep(step)) {
+                return reached;
+            }
             for (int k = 0; k < MOST_DAYS; k++) {
-                long more = spread(reached, step) & ~barred;
+                long more = across(reached, right[step], down[step]) & ~barred;
                 if (more == reached) {
                     break;
                 }
@@ -463,22 +466,18 @@ public final class MazeCalendar {
         }
 
         void goOn(Maze maze, int hand, int step) {
-            if (step == 0 || maze.isChanged(step)) {
+            if (maze.isChanged(step)) {
                 Arrays.fill(known, NONE);
             }
             for (int k = 0; k < size; k++) {
-                states[k] = nextOf(maze, states[k], hand, step);
+                int state = states[k];
+                if (state >= 0 && state < MOST_STATES) {
+                    if (known[state] == NONE) {
+                        known[state] = maze.next(state, hand, step);
+                    }
+                    states[k] = known[state];
+                }
             }
-        }
-
-        private int nextOf(Maze maze, int state, int hand, int step) {
-            if (state < 0 || state >= MOST_STATES) {
-                return state;
-            }
-            if (known[state] == NONE) {
-                known[state] = maze.next(state, hand, step);
-            }
-            return known[state];
         }
     }
 

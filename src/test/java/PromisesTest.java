@@ -489,6 +489,8 @@ public final class PromisesTest {
         guards(with("rrr."), 1, 3, 1, 2);
         guards(with("rrr."), 0, 1, NONE);
         guards(with("rr.."), 0, 3, 0);
+        guards(with("b.;.."), 1, 2, 1, 0);
+        guards(with("rd;.d;r."), 0, 4, 1, 1);
         guards(with("bd;r."), 0, 3, 2, 1, 2);
         guards(with("bd;r."), 1, 2, 2, 0, 3);
         guards(with("bb.;bb.;..."), 0, 4, 2, 1, 3);
