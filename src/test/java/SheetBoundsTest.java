@@ -386,6 +386,16 @@ public final class SheetBoundsTest {
             x.seen(9, 4);
             due("changes in step " + step, x.digest(), told(x));
         }
+        // Each of these calls tells otherwise in the step ahead of its own, or behind it.
+        for (int step : new int[] {0, 1, 4, 5, 6, 9, 10, 19, 20, 21, 29, 30, 49, 50, 51, 98, 99}) {
+            MazeCalendar path = Checks.with("rrd;..d;...", "00el;08nr");
+            path.hedge(step, 0, 0);
+            due("a path closed in step " + step, path.digest(), told(path));
+            MazeCalendar shut = Checks.with("...;...;...", "00el;08nr");
+            shut.gap(step, 0, 0);
+            shut.gap(step, 7, 0);
+            due("gaps cut in step " + step, shut.digest(), told(shut));
+        }
     }
 
     private static void digestChangesNothing() {

@@ -360,6 +360,31 @@ public final class TextBoundsTest {
         due("it is well", x.fault(0), NONE);
     }
 
+    private static void nothingStays() {
+        Checks.sentence("A text is empty (wipe), its last byte is undone: nothing of an earlier maze stays");
+        MazeCalendar x = Checks.with(Checks.ALL_OPEN);
+        x.wipe(0);
+        Checks.type(x, 0, "bb;bb");
+        int[] open = {6, 12, 3, 9};
+        for (int d = 0; d < 4; d++) due("a small maze behind a large one, " + d, x.open(0, d), open[d]);
+        x.wipe(0);
+        Checks.type(x, 0, "..;..");
+        for (int d = 0; d < 4; d++) due("a shut one behind an open one, " + d, x.open(0, d), 0);
+        MazeCalendar y = Checks.with("b.;.b");
+        due("undone", y.undo(0), 4);
+        due("another", y.type(0, '.'), 5);
+        due("the first day stays", y.open(0, 0), 6);
+        for (int n = 4; n >= 0; n--) y.undo(0);
+        Checks.type(y, 0, "..;..");
+        for (int d = 0; d < 4; d++) due("all undone, " + d, y.open(0, d), 0);
+        MazeCalendar w = Checks.with("", "39wa;38sr");
+        w.wipe(1);
+        due("no walker", w.walker(0, 0), BAD);
+        Checks.type(w, 1, "00nl");
+        due("another walker", w.walker(0, 0), 0);
+        due("the second is gone", w.walker(1, 0), BAD);
+    }
+
     private static void undoOfTexts() {
         Checks.sentence("The last byte of a text is undone: how many are left. BAD; NOT: it is empty");
         MazeCalendar x = Checks.with("r", "0");
@@ -423,6 +448,7 @@ public final class TextBoundsTest {
         typeOfBytes();
         typeRefusals();
         wipeOfTexts();
+        nothingStays();
         undoOfTexts();
         faultOfTexts();
         walkerAsTold();

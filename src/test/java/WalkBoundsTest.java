@@ -105,7 +105,7 @@ public final class WalkBoundsTest {
         x.gap(98, 0, 0);
         due("where it begins", x.comes(0, 1), 0);
         due("behind 99", x.comes(0, 2), 99);
-        due("not behind 100", x.comes(0, 0), NONE);
+        due("not behind 99", x.comes(0, 0), NONE);
         x.back(1);
         x.back(1);
         x.gap(97, 1, 0);
@@ -113,6 +113,9 @@ public final class WalkBoundsTest {
         due("behind 98", x.comes(0, 2), 98);
         due("first, not last", x.comes(0, 1), 0);
         due("it turned back", x.on(0, 99, 0), 1);
+        MazeCalendar late = Checks.with("..", "00el");
+        late.gap(99, 0, 0);
+        due("what opens in step 99 is not gone behind 99", late.comes(0, 1), NONE);
         MazeCalendar path = Checks.with(Checks.PATH, "00el");
         due("the longest way", path.comes(0, 30), 35);
     }

@@ -220,6 +220,9 @@ public final class WayBoundsTest {
         guards("rrrrr.", 0, 5, 1, 1);
         guards("rrrrr.", 5, 0, 1, 1);
         guards("rrrrr.", 5, 2, 1, 3);
+        guards("b.;..", 1, 2, 1, 0);
+        guards("b.;..", 2, 1, 1, 0);
+        guards(".d;r.", 1, 2, 1, 3);
         // Two paths from 0 to 8, each of three days between.
         guards("brd;d.d;rr.", 0, 8, 2, 1, 3);
         guards("brd;d.d;rr.", 8, 0, 2, 1, 3);
