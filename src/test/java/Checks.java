@@ -1,3 +1,6 @@
+import java.util.HashSet;
+import java.util.Set;
+
 /** What the boundary tests share: the sentence that is looked at, and the answers due under it. */
 final class Checks {
     static final int NONE = -1, BAD = -2, NOT = -3, FULL = -4;
@@ -15,7 +18,7 @@ final class Checks {
     static final String EIGHT = "00nl;35er;17sa;18wl;05nr;30ea;14sl;39wa";
 
     private static String sentence = "";
-    private static int sentences = 0;
+    private static final Set<String> sentences = new HashSet<>();
     private static int wrong = 0;
 
     private Checks() {
@@ -23,7 +26,7 @@ final class Checks {
 
     static void sentence(String words) {
         sentence = words;
-        sentences++;
+        sentences.add(words);
     }
 
     static void due(String call, long got, long want) {
@@ -49,7 +52,7 @@ final class Checks {
     }
 
     static void end() {
-        System.out.println(wrong == 0 ? sentences + " sentences hold" : wrong + " answers are not as due");
+        System.out.println(wrong == 0 ? sentences.size() + " sentences hold" : wrong + " answers are not as due");
         if (wrong != 0) System.exit(1);
     }
 }
