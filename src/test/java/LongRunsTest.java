@@ -140,16 +140,17 @@ public final class LongRunsTest {
     private static void sheetsOverAndOver() {
         begin("A SHEET is a new row; it is LOST; the latest FINDING");
         int[] lowest = {(byte) 1000003, (short) 1000003, 1000003};
-        for (int k = 0; isRoomFor(12); k++) {
+        for (int k = 0; isRoomFor(13); k++) {
             int s = k % 4, t = (k + 1) % 4, form = k % 3, n = 1 + k * 7 % 60;
             due("get of a lost one", x.get(s, form, 0), Checks.LEAST);
             due("finding", x.count(8), 1);
             due("sheet", x.sheet(s, form, n), n);
-            due("0 at first", x.get(s, form, n - 1), 0);
+            due("0 at first", x.get(s, form, 0), 0);
             due("put", x.put(s, form, n - 1, 1000003), 1);
             due("get", x.get(s, form, n - 1), lowest[form]);
             due("beyond its end", x.put(s, form, n, 1), Checks.INDEX);
             due("as another", x.put(s, (form + 1) % 3, 0, 1), Checks.CAST);
+            due("finding of that", x.count(8), 3);
             due("copy to a lost one", x.copy(s, 0, t, 0, n), Checks.NULL);
             due("onto itself", x.copy(s, n - 1, s, 0, 1), 1);
             due("its first", x.get(s, form, 0), lowest[form]);
